@@ -28,7 +28,7 @@ public final class NineNames {
     private final Setting[] images = new Setting[IMAGES];
     private final boolean[] kept = new boolean[IMAGES];
     private final Board board = new Board();
-    private final Search search = new Search(day, setting, board);
+    private final Search search = new Search();
     private final int[] plan = new int[MOST_HIRED_LOOKS];
     private final long[] standing = new long[MOST_MARKED_CROSSINGS];
 
@@ -280,7 +280,7 @@ public final class NineNames {
         if (day.firstFault() != NONE) {
             return NO;
         }
-        search.refresh();
+        search.refresh(day, setting);
         return i == ALL ? search.ways : search.firstWriting(i);
     }
 
@@ -288,7 +288,7 @@ public final class NineNames {
         if (day.firstFault() != NONE) {
             return NO;
         }
-        search.refresh();
+        search.refresh(day, setting);
         return search.candidatesFor(i);
     }
 
@@ -299,7 +299,7 @@ public final class NineNames {
         if (day.firstFault() != NONE) {
             return NO;
         }
-        search.refresh();
+        search.refresh(day, setting);
         return search.waysWith(person);
     }
 
@@ -756,10 +756,12 @@ public final class NineNames {
             if (name == NOBODY) {
                 return NOWHERE;
             }
-            for (int place = 0; place < length; place++) {
-                if (nameAt(place) == name) {
+            long rest = names;
+            for (int place = 0; place < length && rest != 0; place++) {
+                if ((rest & NAME_DIGIT) == name + 1) {
                     return place;
                 }
+                rest >>>= NAME_BITS;
             }
             return NOWHERE;
         }
@@ -780,9 +782,7 @@ public final class NineNames {
 
     /** All ways to write people for the ? of a day by which the sights hold. */
     private static final class Search {
-        private final Day day;
-        private final Setting setting;
-        private final Board board;
+        private final Board board = new Board();
 
         /** Whether the answers still are those of the day and the setting. */
         private boolean fresh = false;
@@ -799,24 +799,21 @@ public final class NineNames {
         private final int[] unwanted = new int[MOST_SIGNS + 1];
         /** Behind these events no sight counts, so the board need not be followed further. */
         private int lastSight = 0;
-
-        Search(Day day, Setting setting, Board board) {
-            this.day = day;
-            this.setting = setting;
-            this.board = board;
-        }
+        /** Who crosses at an event, if that is told and shows at the next sight. */
+        private final int[] told = new int[MOST_SIGNS];
 
         /** There may be 4096 ways, so what was found is kept until something changes. */
-        void refresh() {
+        void refresh(Day day, Setting setting) {
             if (fresh) {
                 return;
             }
-            findAsked();
-            spreadSights();
+            findAsked(day);
+            spreadSights(day, setting);
+            keepTold(day, setting);
             clearAnswers();
             board.begin(setting.length, setting.law);
             if (holdsBehind(0)) {
-                follow(0, 0, day.toldCrossers());
+                follow(day, 0, 0, day.toldCrossers());
             }
             fresh = true;
         }
@@ -837,7 +834,7 @@ public final class NineNames {
             return i >= 0 && i < asked && i < MOST_ASKED;
         }
 
-        private void findAsked() {
+        private void findAsked(Day day) {
             asked = 0;
             for (int event = 0; event < day.count; event++) {
                 if (day.isAsked(event) && asked < MOST_ASKED) {
@@ -847,7 +844,7 @@ public final class NineNames {
             }
         }
 
-        private void spreadSights() {
+        private void spreadSights(Day day, Setting setting) {
             for (int events = 0; events <= MOST_SIGNS; events++) {
                 wanted[events] = 0;
                 unwanted[events] = 0;
@@ -859,6 +856,30 @@ public final class NineNames {
                     int[] side = setting.sightStood[n] ? wanted : unwanted;
                     side[events] |= 1 << setting.sightPeople[n];
                     lastSight = Math.max(lastSight, events);
+                }
+            }
+        }
+
+        /**
+         * Most told crossings are pushed out ahead of the next sight whoever the ? are: by so many others as
+         * there are places or, by law 1, by the same one. All ways are followed without these.
+         */
+        private void keepTold(Day day, Setting setting) {
+            int later = 0;
+            int laterPeople = 0;
+            for (int event = MOST_SIGNS - 1; event >= 0; event--) {
+                if (isSighted(event + 1)) {
+                    later = 0;
+                    laterPeople = 0;
+                }
+                told[event] = NOBODY;
+                int crosser = day.crosser(event);
+                if (crosser != NOBODY) {
+                    boolean again = (laterPeople >>> crosser & 1) == 1;
+                    boolean shows = setting.law == LAW_ONCE ? !again : later < setting.length;
+                    told[event] = shows ? crosser : NOBODY;
+                    later++;
+                    laterPeople |= 1 << crosser;
                 }
             }
         }
@@ -875,7 +896,7 @@ public final class NineNames {
         }
 
         /** Goes on behind so many events, of which nth are ? that are written by now. */
-        private void follow(int nth, int events, int crossers) {
+        private void follow(Day day, int nth, int events, int crossers) {
             int stop = isAskedIndex(nth) ? askedAt[nth] : day.count;
             if (!walk(events, stop)) {
                 return;
@@ -890,16 +911,15 @@ public final class NineNames {
                 board.write(person, NO_EVENT);
                 written[nth] = person;
                 if (holdsBehind(stop + 1)) {
-                    follow(nth + 1, stop + 1, crossers | 1 << person);
+                    follow(day, nth + 1, stop + 1, crossers | 1 << person);
                 }
             }
         }
 
         private boolean walk(int from, int to) {
-            for (int event = from; event < to && event < lastSight; event++) {
-                int crosser = day.crosser(event);
-                if (crosser != NOBODY) {
-                    board.write(crosser, NO_EVENT);
+            for (int event = from; event < to && event < lastSight && event < MOST_SIGNS; event++) {
+                if (told[event] != NOBODY) {
+                    board.write(told[event], NO_EVENT);
                 }
                 if (!holdsBehind(event + 1)) {
                     return false;
@@ -908,8 +928,12 @@ public final class NineNames {
             return true;
         }
 
+        private boolean isSighted(int events) {
+            return events >= 0 && events <= MOST_SIGNS && (wanted[events] | unwanted[events]) != 0;
+        }
+
         private boolean holdsBehind(int events) {
-            if (events < 0 || events > MOST_SIGNS || (wanted[events] | unwanted[events]) == 0) {
+            if (!isSighted(events)) {
                 return true;
             }
             int people = board.people();

@@ -1,0 +1,86 @@
+import java.lang.reflect.Constructor;
+import java.lang.reflect.Field;
+import java.lang.reflect.Method;
+import java.lang.reflect.Modifier;
+import java.util.Arrays;
+import java.util.Set;
+import java.util.TreeSet;
+
+/** The face is the document's, and no private method bears a public one's name (LANGUAGE.md, rules 1 and 5). */
+public final class FaceTest {
+    private static final String[] METHODS = {
+        "set(int,int)", "say(int)", "wipe()", "fault()", "stands(int,int)", "read(int)", "seen(int)", "missed(int)",
+        "hired(int,int,int)", "cross(int,int)", "unseen(int)", "look(int)", "looks(int)", "best(int)", "stood(int)",
+        "sight(int,int,boolean)", "forget()", "fits(int)", "could(int)", "alibi(int)", "gone(int)", "out(int)",
+        "drawn(int,int,int)", "image(int)", "restore(int)", "told(int)",
+    };
+    private static final String[] CONSTANTS = {"UNKNOWN", "OUTSIDE", "STATE", "FULL", "NO", "NONE"};
+
+    private static final Check C = new Check();
+
+    public static void main(String[] args) throws ReflectiveOperationException {
+        C.part("the face");
+        C.due("public and final", Modifier.isPublic(NineNames.class.getModifiers()) && Modifier.isFinal(NineNames.class.getModifiers()));
+        methods();
+        constants();
+        Constructor<?>[] constructors = NineNames.class.getDeclaredConstructors();
+        C.due("one constructor", constructors.length, 1);
+        C.due("it is public, without parameters", Modifier.isPublic(constructors[0].getModifiers()) && constructors[0].getParameterCount() == 0);
+        inside();
+        C.end();
+    }
+
+    private static String signature(Method m) {
+        StringBuilder text = new StringBuilder(m.getName()).append('(');
+        for (Class<?> type : m.getParameterTypes()) {
+            text.append(text.charAt(text.length() - 1) == '(' ? "" : ",").append(type.getName());
+        }
+        return text.append(')').toString();
+    }
+
+    private static void methods() {
+        Set<String> found = new TreeSet<>();
+        for (Method m : NineNames.class.getDeclaredMethods()) {
+            if (Modifier.isPublic(m.getModifiers())) {
+                found.add(signature(m));
+                C.due(m + " answers int and is not static", m.getReturnType() == int.class && !Modifier.isStatic(m.getModifiers()));
+            } else {
+                C.due(m + " is private", Modifier.isPrivate(m.getModifiers()) || m.isSynthetic());
+            }
+        }
+        C.due("the public methods are " + found, found.equals(new TreeSet<>(Arrays.asList(METHODS))));
+    }
+
+    private static void constants() throws ReflectiveOperationException {
+        Set<String> found = new TreeSet<>();
+        for (Field f : NineNames.class.getDeclaredFields()) {
+            if (Modifier.isPublic(f.getModifiers())) {
+                found.add(f.getName());
+            } else {
+                C.due(f + " is private", Modifier.isPrivate(f.getModifiers()));
+            }
+            if (Modifier.isStatic(f.getModifiers())) {
+                C.due(f + " is final", Modifier.isFinal(f.getModifiers()));
+            }
+        }
+        C.due("the constants are " + found, found.equals(new TreeSet<>(Arrays.asList(CONSTANTS))));
+        for (int n = 0; n < CONSTANTS.length; n++) {
+            Field f = NineNames.class.getDeclaredField(CONSTANTS[n]);
+            C.due(CONSTANTS[n] + " is static", Modifier.isStatic(f.getModifiers()));
+            C.due(CONSTANTS[n], f.getInt(null), -1 - n);
+        }
+    }
+
+    private static void inside() {
+        Set<String> names = new TreeSet<>();
+        for (String m : METHODS) {
+            names.add(m.substring(0, m.indexOf('(')));
+        }
+        for (Class<?> c : NineNames.class.getDeclaredClasses()) {
+            C.due(c + " is static", Modifier.isStatic(c.getModifiers()) && !Modifier.isPublic(c.getModifiers()));
+            for (Method m : c.getDeclaredMethods()) {
+                C.due(m + " bears another name", !names.contains(m.getName()));
+            }
+        }
+    }
+}
