@@ -154,10 +154,6 @@ public final class PromisesTest {
     }
 
     /** What calls of a day without ? and without a fault answer if there is one. */
-    private interface Call {
-        int on(NineNames x);
-    }
-
     private static void dayRefusals(Call call) {
         C.due("with ?", call.on(Check.object(9, 0, "A?a")), STATE);
         C.due("with a fault", call.on(Check.object(9, 0, "Ai")), NO);
