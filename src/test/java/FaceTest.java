@@ -1,8 +1,10 @@
+import java.io.IOException;
 import java.lang.reflect.Constructor;
 import java.lang.reflect.Field;
 import java.lang.reflect.Method;
 import java.lang.reflect.Modifier;
 import java.util.Arrays;
+import java.util.List;
 import java.util.Set;
 import java.util.TreeSet;
 
@@ -18,7 +20,7 @@ public final class FaceTest {
 
     private static final Check C = new Check();
 
-    public static void main(String[] args) throws ReflectiveOperationException {
+    public static void main(String[] args) throws IOException, ReflectiveOperationException {
         C.part("the face");
         C.due("public and final", Modifier.isPublic(NineNames.class.getModifiers()) && Modifier.isFinal(NineNames.class.getModifiers()));
         methods();
@@ -27,6 +29,7 @@ public final class FaceTest {
         C.due("one constructor", constructors.length, 1);
         C.due("it is public, without parameters", Modifier.isPublic(constructors[0].getModifiers()) && constructors[0].getParameterCount() == 0);
         inside();
+        wordByWord();
         C.end();
     }
 
@@ -80,6 +83,22 @@ public final class FaceTest {
             C.due(c + " is static", Modifier.isStatic(c.getModifiers()) && !Modifier.isPublic(c.getModifiers()));
             for (Method m : c.getDeclaredMethods()) {
                 C.due(m + " bears another name", !names.contains(m.getName()));
+            }
+        }
+    }
+
+    /** The names of parameters and the order are the document's, too. */
+    private static void wordByWord() throws IOException {
+        C.part("the document's face, word by word");
+        List<String> document = Texts.javaLines(Texts.DOCUMENT);
+        List<String> source = Texts.lines("src/main/java/NineNames.java");
+        List<String> due = Texts.methods(document);
+        C.due("as many as there are promises of calls", due.size(), METHODS.length);
+        C.due("the methods are " + due, Texts.methods(source).equals(due));
+        for (String line : document) {
+            boolean isMethod = !Texts.methods(List.of(line)).isEmpty();
+            if (!isMethod) {
+                C.due("there is: " + line, source.contains(line.replace("();", "() {")));
             }
         }
     }
