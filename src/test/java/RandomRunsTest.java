@@ -2,8 +2,10 @@ import java.util.Random;
 
 /** Runs of calls by a fixed seed, on an object and on the plain model side by side. */
 public final class RandomRunsTest {
-    private static final int RUNS = 400;
-    private static final int CALLS = 400;
+    private static final int RUNS = 640;
+    /** What an object answers behind its 512th call is free; a kind of call below makes 41 at most. */
+    private static final int CALLS = 512;
+    private static final int MOST_AT_ONCE = 41;
     private static final String[] ALPHABETS = {
         "ABCDEFGHabcdefgh", "ABab", "ABCDEFGHABCDEFGHABCDEFGHah", "ABCc", "ABCDabcdABCD?", "ABCDEFGH??a", "ABCDEFGHabcdefgh?!i@I`",
     };
@@ -13,6 +15,7 @@ public final class RandomRunsTest {
     private NineNames x;
     private PlainModel y;
     private String alphabet;
+    private int calls;
 
     public static void main(String[] args) {
         RandomRunsTest test = new RandomRunsTest();
@@ -26,7 +29,8 @@ public final class RandomRunsTest {
         x = new NineNames();
         y = new PlainModel();
         alphabet = ALPHABETS[run % ALPHABETS.length];
-        for (int n = 0; n < CALLS; n++) {
+        calls = 0;
+        while (calls + MOST_AT_ONCE <= CALLS) {
             check.part("run " + run + ", day " + y.pad + ", long " + y.length + ", law " + y.law + ", sights " + y.sights);
             call();
         }
@@ -42,11 +46,16 @@ public final class RandomRunsTest {
         return least - span + random.nextInt(most - least + 1 + 2 * span);
     }
 
+    private void due(String call, int got, int want) {
+        check.due(call, got, want);
+        calls++;
+    }
+
     private void sayMore() {
-        int more = random.nextInt(10) == 0 ? 41 : 1 + random.nextInt(8);
+        int more = random.nextInt(10) == 0 ? MOST_AT_ONCE : 1 + random.nextInt(8);
         for (int n = 0; n < more; n++) {
             int sign = random.nextInt(60) == 0 ? number(33, 126) : alphabet.charAt(random.nextInt(alphabet.length()));
-            check.due("say(" + sign + ")", x.say(sign), y.say(sign));
+            due("say(" + sign + ")", x.say(sign), y.say(sign));
         }
     }
 
@@ -55,7 +64,7 @@ public final class RandomRunsTest {
         if (kind < 5) {
             sayMore();
         } else if (kind < 7) {
-            check.due("wipe()", x.wipe(), y.wipe());
+            due("wipe()", x.wipe(), y.wipe());
         } else if (kind < 13) {
             change(kind);
         } else if (kind < 27) {
@@ -69,20 +78,20 @@ public final class RandomRunsTest {
         int a = number(0, 1);
         if (kind < 9) {
             int v = a == 1 ? number(0, 2) : number(1, 9);
-            check.due("set(" + a + ", " + v + ")", x.set(a, v), y.set(a, v));
+            due("set(" + a + ", " + v + ")", x.set(a, v), y.set(a, v));
         } else if (kind < 11) {
             int events = random.nextBoolean() ? number(0, 40) : number(0, y.pad.length());
             int p = number(0, 7);
             boolean stood = random.nextInt(3) == 0;
-            check.due("sight(" + events + ", " + p + ", " + stood + ")", x.sight(events, p, stood), y.sight(events, p, stood));
+            due("sight(" + events + ", " + p + ", " + stood + ")", x.sight(events, p, stood), y.sight(events, p, stood));
         } else if (kind == 11) {
             if (random.nextInt(3) == 0) {
-                check.due("forget()", x.forget(), y.forget());
+                due("forget()", x.forget(), y.forget());
             }
         } else if (random.nextBoolean()) {
-            check.due("image(" + a + ")", x.image(a), y.image(a));
+            due("image(" + a + ")", x.image(a), y.image(a));
         } else {
-            check.due("restore(" + a + ")", x.restore(a), y.restore(a));
+            due("restore(" + a + ")", x.restore(a), y.restore(a));
         }
     }
 
@@ -93,26 +102,26 @@ public final class RandomRunsTest {
         int events = number(-1, y.pad.length());
         int bits = random.nextBoolean() ? number(1, 255) : 1 << random.nextInt(8);
         switch (kind) {
-            case 0 -> check.due("fault()", x.fault(), y.fault());
+            case 0 -> due("fault()", x.fault(), y.fault());
             case 1 -> {
                 int place = number(0, 8);
-                check.due("stands(" + events + ", " + place + ")", x.stands(events, place), y.stands(events, place));
+                due("stands(" + events + ", " + place + ")", x.stands(events, place), y.stands(events, place));
             }
-            case 2 -> check.due("read(" + p + ")", x.read(p), y.read(p));
-            case 3 -> check.due("seen(" + p + ")", x.seen(p), y.seen(p));
-            case 4 -> check.due("missed(" + i + ")", x.missed(i), y.missed(i));
+            case 2 -> due("read(" + p + ")", x.read(p), y.read(p));
+            case 3 -> due("seen(" + p + ")", x.seen(p), y.seen(p));
+            case 4 -> due("missed(" + i + ")", x.missed(i), y.missed(i));
             case 5, 6 -> {
                 int look = number(-1, 6);
-                check.due("hired(" + bits + ", " + p + ", " + look + ")", x.hired(bits, p, look), y.hired(bits, p, look));
+                due("hired(" + bits + ", " + p + ", " + look + ")", x.hired(bits, p, look), y.hired(bits, p, look));
             }
-            case 7 -> check.due("cross(" + p + ", " + what + ")", x.cross(p, what), y.cross(p, what));
-            case 8 -> check.due("unseen(" + p + ")", x.unseen(p), y.unseen(p));
-            case 9, 10 -> check.due("look(" + what + ")", x.look(what), y.look(what));
-            case 11 -> check.due("looks(" + what + ")", x.looks(what), y.looks(what));
-            case 12 -> check.due("best(" + what + ")", x.best(what), y.best(what));
+            case 7 -> due("cross(" + p + ", " + what + ")", x.cross(p, what), y.cross(p, what));
+            case 8 -> due("unseen(" + p + ")", x.unseen(p), y.unseen(p));
+            case 9, 10 -> due("look(" + what + ")", x.look(what), y.look(what));
+            case 11 -> due("looks(" + what + ")", x.looks(what), y.looks(what));
+            case 12 -> due("best(" + what + ")", x.best(what), y.best(what));
             default -> {
                 int v = number(1, 9);
-                check.due("stood(" + v + ")", x.stood(v), y.stood(v));
+                due("stood(" + v + ")", x.stood(v), y.stood(v));
             }
         }
     }
@@ -121,23 +130,23 @@ public final class RandomRunsTest {
         int p = number(0, 7);
         int i = number(-1, 4);
         switch (kind) {
-            case 0, 1 -> check.due("fits(" + i + ")", x.fits(i), y.fits(i));
-            case 2, 3 -> check.due("could(" + i + ")", x.could(i), y.could(i));
-            case 4, 5 -> check.due("alibi(" + p + ")", x.alibi(p), y.alibi(p));
-            case 6, 7 -> check.due("gone(" + p + ")", x.gone(p), y.gone(p));
+            case 0, 1 -> due("fits(" + i + ")", x.fits(i), y.fits(i));
+            case 2, 3 -> due("could(" + i + ")", x.could(i), y.could(i));
+            case 4, 5 -> due("alibi(" + p + ")", x.alibi(p), y.alibi(p));
+            case 6, 7 -> due("gone(" + p + ")", x.gone(p), y.gone(p));
             case 8, 9 -> {
                 int event = number(0, Math.max(0, y.pad.length() - 1));
-                check.due("out(" + event + ")", x.out(event), y.out(event));
+                due("out(" + event + ")", x.out(event), y.out(event));
             }
             case 10, 11 -> {
                 int seed = number(0, 9999);
                 int m = number(0, 99);
                 int who = number(-1, 7);
-                check.due("drawn(" + seed + ", " + m + ", " + who + ")", x.drawn(seed, m, who), y.drawn(seed, m, who));
+                due("drawn(" + seed + ", " + m + ", " + who + ")", x.drawn(seed, m, who), y.drawn(seed, m, who));
             }
             default -> {
                 int what = number(0, 3);
-                check.due("told(" + what + ")", x.told(what), y.told(what));
+                due("told(" + what + ")", x.told(what), y.told(what));
             }
         }
     }

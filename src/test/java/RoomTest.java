@@ -2,7 +2,8 @@ import java.lang.management.ManagementFactory;
 
 /** No call makes an object, so that many objects and calls live in one room. */
 public final class RoomTest {
-    private static final int ROUNDS = 20;
+    /** With the first round and the DAY fewer than 512 calls for each object. */
+    private static final int ROUNDS = 16;
     private static final int A_FEW_OBJECTS_OF_THE_MACHINE = 4096;
 
     private static int answers;
